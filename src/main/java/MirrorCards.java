@@ -328,32 +328,32 @@ public final class MirrorCards {
     }
 
     private static long mixedWithCounts(long hash, Card card) {
-        long mixed = hash;
+        long result = hash;
         for (int kind = 0; kind < KINDS; kind++) {
-            mixed = mixed(mixed, Long.bitCount(card.cellsOfKind(kind)));
+            result = mixed(result, Long.bitCount(card.cellsOfKind(kind)));
         }
-        return mixed;
+        return result;
     }
 
     private static long mixedWithRows(long hash, Card card, Telling told) {
-        long mixed = hash;
+        long result = hash;
         for (int row = 0; row < SIDE; row++) {
-            mixed = mixed(mixed, card.rawNumber(row));
+            result = mixed(result, card.rawNumber(row));
         }
         for (int row = 0; row < VALUE_ROWS; row++) {
-            mixed = mixed(mixed, rowValue(card.sound(), card.ones(), row));
-            mixed = mixed(mixed, rowValue(told.known, told.ones, row));
+            result = mixed(result, rowValue(card.sound(), card.ones(), row));
+            result = mixed(result, rowValue(told.known, told.ones, row));
         }
-        return mixed;
+        return result;
     }
 
     private static long mixedWithCells(long hash, Card card, Telling told) {
-        long mixed = hash;
+        long result = hash;
         for (int cell = 0; cell < CELLS; cell++) {
-            mixed = mixed(mixed, card.kindAt(cell));
-            mixed = mixed(mixed, told.bitAt(cell));
+            result = mixed(result, card.kindAt(cell));
+            result = mixed(result, told.bitAt(cell));
         }
-        return mixed;
+        return result;
     }
 
     // ---- what several calls share
@@ -462,7 +462,7 @@ public final class MirrorCards {
         for (int i = 0; i < text.length(); i++) {
             reader.takes(text.charAt(i));
             if (i + 1 >= text.length() || text.charAt(i + 1) == ';') {
-                if (!isPartDone(card)) {
+                if (!tryPart(card)) {
                     return done;
                 }
                 done++;
@@ -472,23 +472,23 @@ public final class MirrorCards {
     }
 
     /** Does the part that the reader has read, and tells whether that was possible. */
-    private boolean isPartDone(Card card) {
+    private boolean tryPart(Card card) {
         switch (reader.letter) {
             case 'p':
-                return isPunchDone(card, reader.row, reader.number);
+                return tryPunching(card, reader.row, reader.number);
             case 'c':
-                return isCloseDone(card);
+                return tryClosing(card);
             case 'v':
                 card.lies = reader.number;
                 return true;
             case 'w':
-                return isHoleChanged(card, true);
+                return tryHole(card, true);
             default:
-                return isHoleChanged(card, false);
+                return tryHole(card, false);
         }
     }
 
-    private static boolean isPunchDone(Card card, int row, int value) {
+    private static boolean tryPunching(Card card, int row, int value) {
         if (!card.canPunch(row)) {
             return false;
         }
@@ -496,7 +496,7 @@ public final class MirrorCards {
         return true;
     }
 
-    private static boolean isCloseDone(Card card) {
+    private static boolean tryClosing(Card card) {
         if (!card.canClose()) {
             return false;
         }
@@ -504,7 +504,7 @@ public final class MirrorCards {
         return true;
     }
 
-    private boolean isHoleChanged(Card card, boolean hole) {
+    private boolean tryHole(Card card, boolean hole) {
         int cell = cellNumber(reader.row, reader.column);
         if (card.hasHole(reader.inBack, cell) == hole) {
             return false;

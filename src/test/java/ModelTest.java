@@ -105,8 +105,7 @@ public final class ModelTest {
                 int o = about(2);
                 return both("copy " + k + " " + o, () -> cards.copy(k, o), () -> model.copy(k, o));
             case 5:
-                int view = about(3);
-                return both("turn " + k + " " + view, () -> cards.turn(k, view), () -> model.turn(k, view));
+                return turn(k, about(3));
             case 6:
                 return both("undo", cards::undo, model::undo);
             case 7:
@@ -116,7 +115,7 @@ public final class ModelTest {
         }
     }
 
-    /** Punches the rows of a card and closes it, so that whole cards are usual. */
+    /** Punches the rows of a card and closes it, so that whole cards are usual; some with a wrong bit. */
     private String fill(int k) {
         String wrong = "";
         for (int row = 0; row < 7 && wrong.isEmpty(); row++) {
@@ -124,7 +123,25 @@ public final class ModelTest {
             int v = random.nextInt(128);
             wrong = both("punch " + k + " " + r + " " + v, () -> cards.punch(k, r, v), () -> model.punch(k, r, v));
         }
+        if (wrong.isEmpty() && random.nextInt(3) == 0) {
+            wrong = flip(k, random.nextInt(7), random.nextInt(8));
+        }
         return wrong.isEmpty() ? both("close " + k, () -> cards.close(k), () -> model.close(k)) : wrong;
+    }
+
+    private String flip(int k, int r, int c) {
+        boolean one = model.kind(k, r, c) == 1;
+        String wrong = turn(k, one ? 0 : 2);
+        int from = one ? c : 7 - c;
+        wrong += both("lose " + k + " " + r + " " + from, () -> cards.lose(k, r, from), () -> model.lose(k, r, from));
+        wrong += turn(k, one ? 2 : 0);
+        int to = 7 - from;
+        wrong += both("wear " + k + " " + r + " " + to, () -> cards.wear(k, r, to), () -> model.wear(k, r, to));
+        return wrong;
+    }
+
+    private String turn(int k, int view) {
+        return both("turn " + k + " " + view, () -> cards.turn(k, view), () -> model.turn(k, view));
     }
 
     private String question() {
@@ -155,7 +172,8 @@ public final class ModelTest {
             case 9:
                 return both("disagreements " + k, () -> cards.disagreements(k), () -> model.disagreements(k));
             case 10:
-                return both("disagreement " + k + " " + n, () -> cards.disagreement(k, n), () -> model.disagreement(k, n));
+                return both("disagreement " + k + " " + n,
+                        () -> cards.disagreement(k, n), () -> model.disagreement(k, n));
             case 11:
                 return both("soundShare " + k, () -> cards.soundShare(k), () -> model.soundShare(k));
             case 12:

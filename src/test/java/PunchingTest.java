@@ -7,6 +7,7 @@ public final class PunchingTest {
         punch();
         punchRefused();
         close();
+        closeOfAWrongRow();
         closeRefused();
         renew();
         copy();
@@ -78,6 +79,10 @@ public final class PunchingTest {
         for (int column = 0; column < 8; column++) {
             CHECK.same("check row, column " + column, checks[column], x.kind(1, 7, column));
         }
+        for (int row = 0; row < 7; row++) {
+            CHECK.same("row " + row + " after close", Check.VALUES[row], x.read(1, row));
+        }
+        CHECK.same("wide cells after close", 0, x.count(1, 3));
         CHECK.same("savedStates", 6, x.savedStates());
         MirrorCards y = new MirrorCards();
         for (int row = 0; row < 7; row++) {
@@ -90,6 +95,23 @@ public final class PunchingTest {
         }
         CHECK.same("close of zeros", 0, z.close(2));
         CHECK.same("zeros", 64, z.count(2, 0));
+    }
+
+    /** A row that disagrees is sound, and each check cell is by its own column alone. */
+    private static void closeOfAWrongRow() {
+        MirrorCards x = new MirrorCards();
+        for (int row = 0; row < 7; row++) {
+            x.punch(0, row, 0);
+        }
+        Check.blankOut(x, 0, 3, 2);
+        x.wear(0, 3, 2);
+        CHECK.same("close with a single one", 1, x.close(0));
+        for (int column = 0; column < 8; column++) {
+            CHECK.same("check row, column " + column, column == 2 ? 1 : 0, x.kind(0, 7, column));
+        }
+        CHECK.same("disagreements", 2, x.disagreements(0));
+        CHECK.same("the wrong row", 3, x.disagreement(0, 0));
+        CHECK.same("the check row", 7, x.disagreement(0, 1));
     }
 
     private static void closeRefused() {
