@@ -2,13 +2,11 @@ import java.lang.reflect.Constructor;
 import java.lang.reflect.Field;
 import java.lang.reflect.Method;
 import java.lang.reflect.Modifier;
-import java.nio.file.Files;
-import java.nio.file.Path;
 import java.util.ArrayList;
 import java.util.List;
 import java.util.TreeSet;
 
-/** The public face of the document, and some rules of LANGUAGE.md. The argument is the project's folder. */
+/** The public face of the document, and the rules of LANGUAGE.md on members. */
 public final class FaceTest {
     private static final Check CHECK = new Check();
 
@@ -22,16 +20,9 @@ public final class FaceTest {
         "int clearText()", "int firstError()", "int run() A", "int undo() S", "int savedStates()", "long digest()"
     };
 
-    /** Words and signs that the rules 2, 6, 10 and 13 leave no place for. */
-    private static final String[] RULED_OUT = {
-        "import ", "package ", "try ", "catch ", "finally", "synchronized", "assert ", "->", "::", "instanceof",
-        "System.", "Exact(", "protected "
-    };
-
-    public static void main(String[] args) throws Exception {
+    public static void main(String[] args) {
         publicMethods();
         otherMembers();
-        source(Path.of(args.length > 0 ? args[0] : "."));
         CHECK.end();
     }
 
@@ -89,13 +80,5 @@ public final class FaceTest {
         Constructor<?>[] constructors = MirrorCards.class.getDeclaredConstructors();
         CHECK.same("constructors", 1, constructors.length);
         CHECK.same("parameters of the constructor", 0, constructors[0].getParameterCount());
-    }
-
-    private static void source(Path root) throws Exception {
-        String source = Files.readString(root.resolve("src/main/java/MirrorCards.java"));
-        String code = source.replaceAll("(?s)/\\*.*?\\*/", "").replaceAll("//[^\n]*", "");
-        for (String ruledOut : RULED_OUT) {
-            CHECK.isFalse("the program has " + ruledOut.trim(), code.contains(ruledOut));
-        }
     }
 }
